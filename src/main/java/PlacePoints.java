@@ -16,10 +16,11 @@ public final class PlacePoints {
     private final int[] boxedNumbers = new int[MOST_SHAPES];
     private int boxedCount = 0;
 
-    // Used again by every call that measures, so that no such call makes an object.
+    // Used again by every call that measures, since each new object is counted.
     private final Fraction gap = new Fraction();
-    private final Shape probe = new Shape(Kind.POINT, BAD);
-    private final Shape[] sorted = new Shape[MOST_SHAPES];
+    private final long[] gapUppers = new long[MOST_SHAPES];
+    private final long[] gapLowers = new long[MOST_SHAPES];
+    private final int[] sortedNumbers = new int[MOST_SHAPES];
 
     public PlacePoints() {
     }
@@ -32,8 +33,10 @@ public final class PlacePoints {
             return FULL;
         }
         int number = make(Kind.POINT);
-        if (number != FULL) {
-            addCorner(made[number], x, y);
+        Shape shape = standing(number);
+        if (shape != null) {
+            shape.add(x, y);
+            cornersUsed++;
         }
         return number;
     }
@@ -54,7 +57,8 @@ public final class PlacePoints {
         if (cornersUsed >= MOST_CORNERS || grown.size >= grown.kind.most) {
             return FULL;
         }
-        addCorner(grown, x, y);
+        grown.add(x, y);
+        cornersUsed++;
         return grown.size;
     }
 
@@ -105,7 +109,7 @@ public final class PlacePoints {
             return BAD;
         }
         int count = sortByGapTo(x, y);
-        return k < 0 || k >= count ? BAD : sorted[k].number;
+        return k < 0 || k >= count ? BAD : sortedNumbers[k];
     }
 
     public long area(int shape) {
@@ -149,15 +153,10 @@ public final class PlacePoints {
             return FULL;
         }
         int number = madeCount;
-        made[number] = new Shape(kind, number);
+        made[number] = new Shape(kind);
         madeCount++;
         standingCount++;
         return number;
-    }
-
-    private void addCorner(Shape shape, int x, int y) {
-        shape.add(x, y);
-        cornersUsed++;
     }
 
     /** The shape of that number, or null when there is none such. */
@@ -171,16 +170,18 @@ public final class PlacePoints {
         return shape == null || shape.verdict != Shape.RIGHT ? null : shape;
     }
 
-    /** Puts the right shapes into the row 'sorted', the nearest first, and tells how many they are. */
+    /** Puts the numbers of the right shapes into their row, the nearest first, and tells how many they are. */
     private int sortByGapTo(int x, int y) {
-        probe.clear();
-        probe.add(x, y);
+        Shape place = new Shape(Kind.POINT);
+        place.add(x, y);
         int count = 0;
         for (int i = 0; i < madeCount; i++) {
             Shape shape = right(i);
             if (shape != null) {
-                shape.measureTo(probe, shape.gapToProbe);
-                insertByGap(shape, count);
+                shape.measureTo(place, gap);
+                gapUppers[i] = gap.upper;
+                gapLowers[i] = gap.lower;
+                insertByGap(i, count);
                 count++;
             }
         }
@@ -188,13 +189,16 @@ public final class PlacePoints {
     }
 
     /** Stays behind those of the same gap: they came earlier, so their numbers are less. */
-    private void insertByGap(Shape shape, int count) {
-        Fraction own = shape.gapToProbe;
+    private void insertByGap(int number, int count) {
         int at = count;
-        for (; at > 0 && sorted[at - 1].gapToProbe.isAbove(own.upper, own.lower); at--) {
-            sorted[at] = sorted[at - 1];
+        for (; at > 0 && isFarther(sortedNumbers[at - 1], number); at--) {
+            sortedNumbers[at] = sortedNumbers[at - 1];
         }
-        sorted[at] = shape;
+        sortedNumbers[at] = number;
+    }
+
+    private boolean isFarther(int number, int other) {
+        return Fraction.isAbove(gapUppers[number], gapLowers[number], gapUppers[other], gapLowers[other]);
     }
 
     private enum Kind {
@@ -220,11 +224,9 @@ public final class PlacePoints {
         private static final int ON_SIDE = 2;
 
         final Kind kind;
-        final int number;
         int size = 0;
         /** What check() answers; kept, since most calls ask for it and only a new corner changes it. */
         int verdict = TOO_FEW;
-        final Fraction gapToProbe = new Fraction();
 
         // The first corner stands again behind the last one, so that side i always ends at i + 1;
         // a point so has one side, of length 0.
@@ -235,9 +237,8 @@ public final class PlacePoints {
         private int highX = -REACH;
         private int highY = -REACH;
 
-        Shape(Kind kind, int number) {
+        Shape(Kind kind) {
             this.kind = kind;
-            this.number = number;
             xs = new int[kind.most + 1];
             ys = new int[kind.most + 1];
         }
@@ -256,15 +257,6 @@ public final class PlacePoints {
             highX = Math.max(highX, x);
             highY = Math.max(highY, y);
             verdict = judge();
-        }
-
-        void clear() {
-            size = 0;
-            verdict = TOO_FEW;
-            lowX = REACH;
-            lowY = REACH;
-            highX = -REACH;
-            highY = -REACH;
         }
 
         boolean boxMeets(int x, int y, int u, int v) {
@@ -443,13 +435,13 @@ public final class PlacePoints {
         }
 
         void lessen(long otherUpper, long otherLower) {
-            if (isAbove(otherUpper, otherLower)) {
+            if (isAbove(upper, lower, otherUpper, otherLower)) {
                 set(otherUpper, otherLower);
             }
         }
 
         /** By whole parts first: upper * otherLower could pass the end of a long, rests times lowers can't. */
-        boolean isAbove(long otherUpper, long otherLower) {
+        static boolean isAbove(long upper, long lower, long otherUpper, long otherLower) {
             if (lower <= 0 || otherLower <= 0) {
                 return false;
             }

@@ -212,6 +212,8 @@ public final class PromisesTest {
         due.is("two corners", x.check(polygon(x, 0, 0, 0, 0)), 0);
         due.is("with the clock", x.check(polygon(x, 0, 0, 0, 4, 4, 0)), 1);
         due.is("flat", x.check(polygon(x, 0, 0, 4, 0, 2, 0)), -10);
+        due.is("flat, upright", x.check(polygon(x, 0, 0, 0, 4, 0, 2)), -10);
+        due.is("sides 0 and 1 fold, upright", x.check(polygon(x, 0, 2, 0, 0, 0, 5, -3, 3)), -10);
         due.is("three corners, side 1 of length 0", x.check(polygon(x, 0, 0, 4, 0, 4, 0)), -10);
         due.is("three corners, side 2 of length 0", x.check(polygon(x, 0, 0, 4, 0, 0, 0)), -10);
         due.is("three corners at one place", x.check(polygon(x, 5, 5, 5, 5, 5, 5)), -10);
@@ -333,6 +335,7 @@ public final class PromisesTest {
         squareIs(x, line, line(x, 0, 4, 4, 0), 0, 1);
         squareIs(x, line, line(x, 1, 1, 2, 2), 0, 1);
         squareIs(x, line, line(x, 5, 5, 9, 9), 2, 1);
+        squareIs(x, line, line(x, 9, 9, 5, 6), 5, 1);
         squareIs(x, line, line(x, 4, 4, 9, 0), 0, 1);
         squareIs(x, line, line(x, 2, 0, 6, 4), 2, 1);
         squareIs(x, line, line(x, 0, 2, 1, 2), 1, 2);
