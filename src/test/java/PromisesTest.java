@@ -31,45 +31,20 @@ public final class PromisesTest {
         due.end();
     }
 
-    /** Makes a line of the corners x, y, x, y, .. and answers its number. */
-    private static int line(PlacePoints x, int... corners) {
-        return grow(x, x.line(), corners);
-    }
-
-    private static int polygon(PlacePoints x, int... corners) {
-        return grow(x, x.polygon(), corners);
-    }
-
-    private static int grow(PlacePoints x, int shape, int... corners) {
-        for (int i = 0; i < corners.length; i += 2) {
-            due.is("corner of " + shape, x.corner(shape, corners[i], corners[i + 1]), i / 2 + 1);
-        }
-        return shape;
-    }
-
-    private static void squareIs(PlacePoints x, int a, int b, long upper, long lower) {
-        due.is("square(" + a + ", " + b + ", 0)", x.square(a, b, 0), upper);
-        due.is("square(" + a + ", " + b + ", 1)", x.square(a, b, 1), lower);
-        due.is("square(" + b + ", " + a + ", 0)", x.square(b, a, 0), upper);
-        due.is("square(" + b + ", " + a + ", 1)", x.square(b, a, 1), lower);
-        due.is("meets(" + a + ", " + b + ")", x.meets(a, b), upper == 0 ? 1 : 0);
-        due.is("meets(" + b + ", " + a + ")", x.meets(b, a), upper == 0 ? 1 : 0);
-    }
-
     private static void promise1New() {
-        PlacePoints x = new PlacePoints();
+        Plane x = new Plane(due);
         due.is("shapes of a new one", x.shapes(), 0);
         due.is("check of a new one", x.check(0), BAD);
         due.is("near of a new one", x.near(0, 0, 0), BAD);
         due.is("boxed of a new one", x.boxed(LEAST, LEAST, MOST, MOST), 0);
         due.is("first number", x.line(), 0);
-        PlacePoints other = new PlacePoints();
+        Plane other = new Plane(due);
         due.is("shapes of another new one", other.shapes(), 0);
         due.is("first number of another", other.polygon(), 0);
     }
 
     private static void promise2Point() {
-        PlacePoints x = new PlacePoints();
+        Plane x = new Plane(due);
         due.is("point", x.point(10000, -10000), 0);
         due.is("point", x.point(-10000, 10000), 1);
         due.is("point on a point", x.point(-10000, 10000), 2);
@@ -83,7 +58,7 @@ public final class PromisesTest {
     }
 
     private static void promise2PointWithoutRoom() {
-        PlacePoints x = new PlacePoints();
+        Plane x = new Plane(due);
         for (int i = 0; i < 60; i++) {
             due.is("point " + i, x.point(i, i), i);
         }
@@ -95,7 +70,7 @@ public final class PromisesTest {
     }
 
     private static void promise3Line() {
-        PlacePoints x = new PlacePoints();
+        Plane x = new Plane(due);
         for (int i = 0; i < 60; i++) {
             due.is("line " + i, x.line(), i);
             due.is("a line without corners", x.check(i), 0);
@@ -107,7 +82,7 @@ public final class PromisesTest {
     }
 
     private static void promise4Polygon() {
-        PlacePoints x = new PlacePoints();
+        Plane x = new Plane(due);
         for (int i = 0; i < 60; i++) {
             due.is("polygon " + i, x.polygon(), i);
             due.is("a polygon without corners", x.check(i), 0);
@@ -119,7 +94,7 @@ public final class PromisesTest {
     }
 
     private static void promise5Corner() {
-        PlacePoints x = new PlacePoints();
+        Plane x = new Plane(due);
         x.point(0, 0);
         x.line();
         x.polygon();
@@ -144,7 +119,7 @@ public final class PromisesTest {
     }
 
     private static void promise5CornerWithoutRoom() {
-        PlacePoints x = new PlacePoints();
+        Plane x = new Plane(due);
         for (int i = 0; i < 16; i++) {
             x.line();
             for (int k = 0; k < 24; k++) {
@@ -167,10 +142,10 @@ public final class PromisesTest {
     }
 
     private static void promise6Remove() {
-        PlacePoints x = new PlacePoints();
+        Plane x = new Plane(due);
         x.point(1, 1);
         x.line();
-        polygon(x, 0, 0, 2, 0, 0, 2);
+        x.polygonOf(0, 0, 2, 0, 0, 2);
         due.is("remove none", x.remove(3), BAD);
         due.is("remove none", x.remove(-1), BAD);
         due.is("remove none", x.remove(MOST), BAD);
@@ -191,15 +166,15 @@ public final class PromisesTest {
     }
 
     private static void promise7CheckLines() {
-        PlacePoints x = new PlacePoints();
-        due.is("no corner", x.check(line(x)), 0);
-        due.is("one corner", x.check(line(x, 1, 1)), 0);
-        due.is("two corners", x.check(line(x, 1, 1, 1, 2)), 1);
-        due.is("two corners at one place", x.check(line(x, 1, 1, 1, 1)), -10);
-        due.is("a line may cross itself", x.check(line(x, 0, 0, 4, 4, 4, 0, 0, 4)), 1);
-        due.is("a line may run back", x.check(line(x, 0, 0, 4, 0, 0, 0)), 1);
-        due.is("side 2 of length 0", x.check(line(x, 0, 0, 1, 0, 2, 0, 2, 0, 2, 0)), -12);
-        due.is("first and last the same", x.check(line(x, 0, 0, 1, 0, 1, 1, 0, 0)), 1);
+        Plane x = new Plane(due);
+        due.is("no corner", x.check(x.lineOf()), 0);
+        due.is("one corner", x.check(x.lineOf(1, 1)), 0);
+        due.is("two corners", x.check(x.lineOf(1, 1, 1, 2)), 1);
+        due.is("two corners at one place", x.check(x.lineOf(1, 1, 1, 1)), -10);
+        due.is("a line may cross itself", x.check(x.lineOf(0, 0, 4, 4, 4, 0, 0, 4)), 1);
+        due.is("a line may run back", x.check(x.lineOf(0, 0, 4, 0, 0, 0)), 1);
+        due.is("side 2 of length 0", x.check(x.lineOf(0, 0, 1, 0, 2, 0, 2, 0, 2, 0)), -12);
+        due.is("first and last the same", x.check(x.lineOf(0, 0, 1, 0, 1, 1, 0, 0)), 1);
         due.is("none", x.check(8), BAD);
         due.is("none", x.check(-1), BAD);
         due.is("none", x.check(LEAST), BAD);
@@ -207,51 +182,51 @@ public final class PromisesTest {
     }
 
     private static void promise7CheckPolygons() {
-        PlacePoints x = new PlacePoints();
-        due.is("no corner", x.check(polygon(x)), 0);
-        due.is("two corners", x.check(polygon(x, 0, 0, 0, 0)), 0);
-        due.is("with the clock", x.check(polygon(x, 0, 0, 0, 4, 4, 0)), 1);
-        due.is("flat", x.check(polygon(x, 0, 0, 4, 0, 2, 0)), -10);
-        due.is("flat, upright", x.check(polygon(x, 0, 0, 0, 4, 0, 2)), -10);
-        due.is("sides 0 and 1 fold, upright", x.check(polygon(x, 0, 2, 0, 0, 0, 5, -3, 3)), -10);
-        due.is("three corners, side 1 of length 0", x.check(polygon(x, 0, 0, 4, 0, 4, 0)), -10);
-        due.is("three corners, side 2 of length 0", x.check(polygon(x, 0, 0, 4, 0, 0, 0)), -10);
-        due.is("three corners at one place", x.check(polygon(x, 5, 5, 5, 5, 5, 5)), -10);
-        due.is("a corner on a straight side", x.check(polygon(x, 0, 0, 2, 0, 4, 0, 0, 4)), 1);
-        due.is("a corner on a straight last side", x.check(polygon(x, 1, 0, 4, 0, 0, 4, 0, 0)), 1);
-        due.is("sides 1 and 2 fold", x.check(polygon(x, 0, 0, 4, 0, 4, 6, 4, 3, 0, 3)), -11);
-        due.is("the last and the first fold", x.check(polygon(x, 0, 0, 6, 0, 6, 4, 3, 4, 3, 0)), -10);
-        due.is("sides 2 and 4 cross", x.check(polygon(x, 0, 0, 9, 0, 9, 2, 4, 8, 4, 2, 9, 8, 0, 8)), -12);
-        due.is("sides 1 and 3 touch in corners", x.check(polygon(x, 0, 0, 4, 0, 4, 4, 6, 4, 4, 0, 0, -4)), -10);
-        due.is("a corner touches side 1", x.check(polygon(x, 0, 0, 8, 0, 8, 8, 6, 8, 8, 4, 4, 8, 0, 8)), -11);
-        due.is("the least side of several", x.check(polygon(x, 0, 0, 9, 0, 9, 9, 9, 9, 0, 9)), -11);
-        int grown = polygon(x, 0, 0, 4, 4, 4, 0, 0, 4);
+        Plane x = new Plane(due);
+        due.is("no corner", x.check(x.polygonOf()), 0);
+        due.is("two corners", x.check(x.polygonOf(0, 0, 0, 0)), 0);
+        due.is("with the clock", x.check(x.polygonOf(0, 0, 0, 4, 4, 0)), 1);
+        due.is("flat", x.check(x.polygonOf(0, 0, 4, 0, 2, 0)), -10);
+        due.is("flat, upright", x.check(x.polygonOf(0, 0, 0, 4, 0, 2)), -10);
+        due.is("sides 0 and 1 fold, upright", x.check(x.polygonOf(0, 2, 0, 0, 0, 5, -3, 3)), -10);
+        due.is("three corners, side 1 of length 0", x.check(x.polygonOf(0, 0, 4, 0, 4, 0)), -10);
+        due.is("three corners, side 2 of length 0", x.check(x.polygonOf(0, 0, 4, 0, 0, 0)), -10);
+        due.is("three corners at one place", x.check(x.polygonOf(5, 5, 5, 5, 5, 5)), -10);
+        due.is("a corner on a straight side", x.check(x.polygonOf(0, 0, 2, 0, 4, 0, 0, 4)), 1);
+        due.is("a corner on a straight last side", x.check(x.polygonOf(1, 0, 4, 0, 0, 4, 0, 0)), 1);
+        due.is("sides 1 and 2 fold", x.check(x.polygonOf(0, 0, 4, 0, 4, 6, 4, 3, 0, 3)), -11);
+        due.is("the last and the first fold", x.check(x.polygonOf(0, 0, 6, 0, 6, 4, 3, 4, 3, 0)), -10);
+        due.is("sides 2 and 4 cross", x.check(x.polygonOf(0, 0, 9, 0, 9, 2, 4, 8, 4, 2, 9, 8, 0, 8)), -12);
+        due.is("sides 1 and 3 touch in corners", x.check(x.polygonOf(0, 0, 4, 0, 4, 4, 6, 4, 4, 0, 0, -4)), -10);
+        due.is("a corner touches side 1", x.check(x.polygonOf(0, 0, 8, 0, 8, 8, 6, 8, 8, 4, 4, 8, 0, 8)), -11);
+        due.is("the least side of several", x.check(x.polygonOf(0, 0, 9, 0, 9, 9, 9, 9, 0, 9)), -11);
+        int grown = x.polygonOf(0, 0, 4, 4, 4, 0, 0, 4);
         due.is("crossed", x.check(grown), -10);
         due.is("corner", x.corner(grown, -1, 1), 5);
         due.is("still crossed", x.check(grown), -10);
-        int mended = polygon(x, 0, 0, 4, 0, 2, 0);
+        int mended = x.polygonOf(0, 0, 4, 0, 2, 0);
         due.is("still folded", x.check(mended), -10);
-        int spoilt = polygon(x, 0, 0, 4, 0, 4, 4);
+        int spoilt = x.polygonOf(0, 0, 4, 0, 4, 4);
         due.is("right", x.check(spoilt), 1);
         due.is("corner", x.corner(spoilt, 2, -1), 4);
         due.is("wrong after a corner more", x.check(spoilt), -10);
         due.is("corner", x.corner(spoilt, -3, 1), 5);
-        int closed = polygon(x, 0, 0, 6, 0, 0, 6, 6, 6);
+        int closed = x.polygonOf(0, 0, 6, 0, 0, 6, 6, 6);
         due.is("sides 1 and 3 cross", x.check(closed), -11);
         due.is("corner", x.corner(closed, 6, 9), 5);
         due.is("corner", x.corner(closed, -3, 9), 6);
         due.is("right after two corners more", x.check(closed), 1);
-        due.is("far corners", x.check(polygon(x, -10000, -10000, 10000, 10000, 10000, 9999, -9999, -10000)), 1);
+        due.is("far corners", x.check(x.polygonOf(-10000, -10000, 10000, 10000, 10000, 9999, -9999, -10000)), 1);
     }
 
     private static void promise8Inside() {
-        PlacePoints x = new PlacePoints();
-        int comb = polygon(x, 0, 0, 8, 0, 8, 6, 6, 6, 6, 2, 2, 2, 2, 6, 0, 6);
-        int clock = polygon(x, -10000, -10000, -10000, 10000, 10000, 10000, 10000, -10000);
-        int sliver = polygon(x, -10000, -10000, 10000, 9999, 10000, 10000);
-        int line = line(x, 0, 0, 8, 0);
+        Plane x = new Plane(due);
+        int comb = x.polygonOf(0, 0, 8, 0, 8, 6, 6, 6, 6, 2, 2, 2, 2, 6, 0, 6);
+        int clock = x.polygonOf(-10000, -10000, -10000, 10000, 10000, 10000, 10000, -10000);
+        int sliver = x.polygonOf(-10000, -10000, 10000, 9999, 10000, 10000);
+        int line = x.lineOf(0, 0, 8, 0);
         int at = x.point(1, 1);
-        int crossed = polygon(x, 0, 0, 4, 4, 4, 0, 0, 4);
+        int crossed = x.polygonOf(0, 0, 4, 4, 4, 0, 0, 4);
         int[][] places = {{1, 1, 1}, {1, 5, 1}, {4, 1, 1}, {4, 4, 0}, {4, 2, 2}, {0, 0, 2}, {8, 3, 2}, {7, 6, 2},
             {4, 6, 0}, {9, 0, 0}, {-1, 0, 0}, {-1, 6, 0}, {-1, 2, 0}, {4, 7, 0}, {4, -1, 0}, {6, 2, 2}, {7, 2, 1}, {2, 3, 2}};
         for (int[] place : places) {
@@ -275,18 +250,18 @@ public final class PromisesTest {
     }
 
     private static void promise8InsideAtCornersOnTheRay() {
-        PlacePoints x = new PlacePoints();
-        int diamond = polygon(x, 4, 0, 8, 4, 4, 8, 0, 4);
+        Plane x = new Plane(due);
+        int diamond = x.polygonOf(4, 0, 8, 4, 4, 8, 0, 4);
         due.is("level with a corner, within", x.inside(4, 4, diamond), 1);
         due.is("level with a corner, before", x.inside(-2, 4, diamond), 0);
         due.is("level with the lowest", x.inside(0, 0, diamond), 0);
         due.is("level with the highest", x.inside(0, 8, diamond), 0);
-        int peak = polygon(x, 0, 0, 9, 0, 9, 9, 6, 4, 3, 9, 0, 4);
+        int peak = x.polygonOf(0, 0, 9, 0, 9, 9, 6, 4, 3, 9, 0, 4);
         due.is("level with two low corners", x.inside(1, 4, peak), 1);
         due.is("between them", x.inside(5, 4, peak), 1);
         due.is("behind them", x.inside(8, 4, peak), 1);
         due.is("level with two peaks", x.inside(-5, 9, peak), 0);
-        int step = polygon(x, 0, 0, 9, 0, 9, 4, 5, 4, 5, 8, 0, 8);
+        int step = x.polygonOf(0, 0, 9, 0, 9, 4, 5, 4, 5, 8, 0, 8);
         due.is("level with a flat side, within", x.inside(2, 4, step), 1);
         due.is("level with a flat side, before", x.inside(-2, 4, step), 0);
         due.is("on the flat side", x.inside(7, 4, step), 2);
@@ -294,14 +269,14 @@ public final class PromisesTest {
     }
 
     private static void promise9Meets() {
-        PlacePoints x = new PlacePoints();
-        int big = polygon(x, 0, 0, 20, 0, 20, 20, 0, 20);
-        int small = polygon(x, 5, 5, 5, 8, 8, 8);
-        int within = line(x, 1, 1, 3, 2, 1, 3);
-        int apart = line(x, 21, 0, 21, 20);
-        int through = line(x, -5, 10, 25, 11);
+        Plane x = new Plane(due);
+        int big = x.polygonOf(0, 0, 20, 0, 20, 20, 0, 20);
+        int small = x.polygonOf(5, 5, 5, 8, 8, 8);
+        int within = x.lineOf(1, 1, 3, 2, 1, 3);
+        int apart = x.lineOf(21, 0, 21, 20);
+        int through = x.lineOf(-5, 10, 25, 11);
         int at = x.point(19, 19);
-        int wrong = line(x, 1, 1);
+        int wrong = x.lineOf(1, 1);
         due.is("a polygon in a polygon", x.meets(small, big), 1);
         due.is("a polygon round a polygon", x.meets(big, small), 1);
         due.is("a line in a polygon", x.meets(within, big), 1);
@@ -326,29 +301,29 @@ public final class PromisesTest {
     }
 
     private static void promise10Square() {
-        PlacePoints x = new PlacePoints();
+        Plane x = new Plane(due);
         int at = x.point(3, 0);
-        int line = line(x, 0, 0, 4, 4);
-        squareIs(x, at, line, 9, 2);
-        squareIs(x, at, x.point(0, 4), 25, 1);
-        squareIs(x, at, at, 0, 1);
-        squareIs(x, line, line(x, 0, 4, 4, 0), 0, 1);
-        squareIs(x, line, line(x, 1, 1, 2, 2), 0, 1);
-        squareIs(x, line, line(x, 5, 5, 9, 9), 2, 1);
-        squareIs(x, line, line(x, 9, 9, 5, 6), 5, 1);
-        squareIs(x, line, line(x, 4, 4, 9, 0), 0, 1);
-        squareIs(x, line, line(x, 2, 0, 6, 4), 2, 1);
-        squareIs(x, line, line(x, 0, 2, 1, 2), 1, 2);
-        int ring = polygon(x, -9, -9, 9, -9, 9, 9, -9, 9);
-        squareIs(x, ring, line, 0, 1);
-        squareIs(x, ring, at, 0, 1);
-        squareIs(x, ring, x.point(12, 13), 25, 1);
-        squareIs(x, ring, polygon(x, 11, 0, 15, -3, 15, 3), 4, 1);
-        squareIs(x, ring, polygon(x, 0, 0, 1, 0, 0, 1), 0, 1);
-        squareIs(x, ring, polygon(x, 9, 9, 10, 9, 10, 10), 0, 1);
-        int hook = polygon(x, 20, 0, 30, 0, 30, 10, 20, 10, 20, 8, 28, 8, 28, 2, 20, 2);
-        squareIs(x, hook, x.point(25, 5), 9, 1);
-        squareIs(x, hook, line(x, 22, 5, 27, 6), 1, 1);
+        int line = x.lineOf(0, 0, 4, 4);
+        x.squareIs(at, line, 9, 2);
+        x.squareIs(at, x.point(0, 4), 25, 1);
+        x.squareIs(at, at, 0, 1);
+        x.squareIs(line, x.lineOf(0, 4, 4, 0), 0, 1);
+        x.squareIs(line, x.lineOf(1, 1, 2, 2), 0, 1);
+        x.squareIs(line, x.lineOf(5, 5, 9, 9), 2, 1);
+        x.squareIs(line, x.lineOf(9, 9, 5, 6), 5, 1);
+        x.squareIs(line, x.lineOf(4, 4, 9, 0), 0, 1);
+        x.squareIs(line, x.lineOf(2, 0, 6, 4), 2, 1);
+        x.squareIs(line, x.lineOf(0, 2, 1, 2), 1, 2);
+        int ring = x.polygonOf(-9, -9, 9, -9, 9, 9, -9, 9);
+        x.squareIs(ring, line, 0, 1);
+        x.squareIs(ring, at, 0, 1);
+        x.squareIs(ring, x.point(12, 13), 25, 1);
+        x.squareIs(ring, x.polygonOf(11, 0, 15, -3, 15, 3), 4, 1);
+        x.squareIs(ring, x.polygonOf(0, 0, 1, 0, 0, 1), 0, 1);
+        x.squareIs(ring, x.polygonOf(9, 9, 10, 9, 10, 10), 0, 1);
+        int hook = x.polygonOf(20, 0, 30, 0, 30, 10, 20, 10, 20, 8, 28, 8, 28, 2, 20, 2);
+        x.squareIs(hook, x.point(25, 5), 9, 1);
+        x.squareIs(hook, x.lineOf(22, 5, 27, 6), 1, 1);
         due.is("another part than 0 is the lower number", x.square(at, line, 2), 2);
         due.is("another part than 0 is the lower number", x.square(at, line, -1), 2);
         int wrong = x.polygon();
@@ -360,28 +335,28 @@ public final class PromisesTest {
     }
 
     private static void promise10SquareAtTheEnds() {
-        PlacePoints x = new PlacePoints();
+        Plane x = new Plane(due);
         int low = x.point(-10000, -10000);
-        squareIs(x, low, x.point(10000, 10000), 800000000L, 1);
-        int across = line(x, -10000, 10000, 10000, -9999);
+        x.squareIs(low, x.point(10000, 10000), 800000000L, 1);
+        int across = x.lineOf(-10000, 10000, 10000, -9999);
         // The height over a side: twice the triangle, squared, over the side, squared.
-        squareIs(x, low, across, 160000000000000000L, 799960001L);
-        int down = line(x, -10000, 10000, 10000, -10000);
-        squareIs(x, low, down, 200000000L, 1);
-        int steep = line(x, -10000, -9999, 9999, 10000);
-        squareIs(x, low, steep, 1, 1);
-        squareIs(x, x.point(-9999, -9999), steep, 1, 2);
+        x.squareIs(low, across, 160000000000000000L, 799960001L);
+        int down = x.lineOf(-10000, 10000, 10000, -10000);
+        x.squareIs(low, down, 200000000L, 1);
+        int steep = x.lineOf(-10000, -9999, 9999, 10000);
+        x.squareIs(low, steep, 1, 1);
+        x.squareIs(x.point(-9999, -9999), steep, 1, 2);
     }
 
     private static void promise11Near() {
-        PlacePoints x = new PlacePoints();
+        Plane x = new Plane(due);
         x.line();
         x.point(5, 0);
-        polygon(x, -10, -10, 10, -10, 10, 10, -10, 10);
+        x.polygonOf(-10, -10, 10, -10, 10, 10, -10, 10);
         x.point(0, 5);
-        line(x, 4, 4, 4, -4);
+        x.lineOf(4, 4, 4, -4);
         x.point(-3, -4);
-        polygon(x, 0, 0, 4, 4, 4, 0, 0, 4);
+        x.polygonOf(0, 0, 4, 4, 4, 0, 0, 4);
         int[] order = {2, 4, 1, 3, 5};
         for (int k = 0; k < order.length; k++) {
             due.is("near(0, 0, " + k + ")", x.near(0, 0, k), order[k]);
@@ -398,30 +373,30 @@ public final class PromisesTest {
         x.remove(2);
         due.is("the first after one went", x.near(0, 0, 0), 4);
         due.is("the last after one went", x.near(0, 0, 4), BAD);
-        grow(x, 0, 0, 0, 0, 1);
+        x.grow(0, 0, 0, 0, 1);
         due.is("the first after one came right", x.near(0, 0, 0), 0);
         due.is("the second after one came right", x.near(0, 0, 1), 4);
     }
 
     /** Products of such numbers pass the end of a long, and the squares have the same whole part. */
     private static void promise11NearTellsCloseFractionsApart() {
-        PlacePoints x = new PlacePoints();
-        line(x, -7002, 10000, 10000, -7000);
-        line(x, -7001, 10000, 10000, -7001);
+        Plane x = new Plane(due);
+        x.lineOf(-7002, 10000, 10000, -7000);
+        x.lineOf(-7001, 10000, 10000, -7001);
         int low = x.point(-10000, -10000);
-        squareIs(x, 0, low, 38221423009000000L, 144517001L);
-        squareIs(x, 1, low, 528954001L, 2);
+        x.squareIs(0, low, 38221423009000000L, 144517001L);
+        x.squareIs(1, low, 528954001L, 2);
         due.is("near", x.near(-10000, -10000, 0), low);
         due.is("near", x.near(-10000, -10000, 1), 1);
         due.is("near", x.near(-10000, -10000, 2), 0);
-        PlacePoints y = new PlacePoints();
-        line(y, -10000, 9998, 10000, -9997);
-        line(y, -10000, 9999, 10000, -9998);
-        line(y, -9999, 10000, 9998, -10000);
+        Plane y = new Plane(due);
+        y.lineOf(-10000, 9998, 10000, -9997);
+        y.lineOf(-10000, 9999, 10000, -9998);
+        y.lineOf(-9999, 10000, 9998, -10000);
         int zero = y.point(0, 0);
-        squareIs(y, 0, zero, 4000000L, 31992001L);
-        squareIs(y, 1, zero, 100000000L, 799880009L);
-        squareIs(y, 2, zero, 100000000L, 799880009L);
+        y.squareIs(0, zero, 4000000L, 31992001L);
+        y.squareIs(1, zero, 100000000L, 799880009L);
+        y.squareIs(2, zero, 100000000L, 799880009L);
         due.is("near", y.near(0, 0, 0), zero);
         due.is("near, the lesser number of the same square", y.near(0, 0, 1), 1);
         due.is("near", y.near(0, 0, 2), 2);
@@ -429,15 +404,15 @@ public final class PromisesTest {
     }
 
     private static void promise12Area() {
-        PlacePoints x = new PlacePoints();
-        due.is("against the clock", x.area(polygon(x, 0, 0, 3, 0, 0, 1)), 3);
-        due.is("with the clock", x.area(polygon(x, 0, 0, 0, 1, 3, 0)), -3);
-        due.is("the whole plane", x.area(polygon(x, -10000, -10000, 10000, -10000, 10000, 10000, -10000, 10000)), 800000000L);
-        due.is("the whole plane", x.area(polygon(x, -10000, -10000, -10000, 10000, 10000, 10000, 10000, -10000)), -800000000L);
-        due.is("far from the middle", x.area(polygon(x, 9999, 9999, 10000, 9999, 10000, 10000)), 1);
-        due.is("hollow", x.area(polygon(x, 0, 0, 8, 0, 8, 6, 6, 6, 6, 2, 2, 2, 2, 6, 0, 6)), 64);
-        due.is("no right polygon", x.area(polygon(x, 0, 0, 6, 4, 6, 0, 0, 5)), 0);
-        due.is("a line", x.area(line(x, 0, 0, 3, 0, 0, 1)), 0);
+        Plane x = new Plane(due);
+        due.is("against the clock", x.area(x.polygonOf(0, 0, 3, 0, 0, 1)), 3);
+        due.is("with the clock", x.area(x.polygonOf(0, 0, 0, 1, 3, 0)), -3);
+        due.is("the whole plane", x.area(x.polygonOf(-10000, -10000, 10000, -10000, 10000, 10000, -10000, 10000)), 800000000L);
+        due.is("the whole plane", x.area(x.polygonOf(-10000, -10000, -10000, 10000, 10000, 10000, 10000, -10000)), -800000000L);
+        due.is("far from the middle", x.area(x.polygonOf(9999, 9999, 10000, 9999, 10000, 10000)), 1);
+        due.is("hollow", x.area(x.polygonOf(0, 0, 8, 0, 8, 6, 6, 6, 6, 2, 2, 2, 2, 6, 0, 6)), 64);
+        due.is("no right polygon", x.area(x.polygonOf(0, 0, 6, 4, 6, 0, 0, 5)), 0);
+        due.is("a line", x.area(x.lineOf(0, 0, 3, 0, 0, 1)), 0);
         due.is("a point", x.area(x.point(3, 4)), 0);
         due.is("none", x.area(9), 0);
         due.is("none", x.area(-1), 0);
@@ -448,12 +423,12 @@ public final class PromisesTest {
     }
 
     private static void promise13Boxed() {
-        PlacePoints x = new PlacePoints();
+        Plane x = new Plane(due);
         x.point(5, 5);
-        line(x, 0, 0, 10, 10);
-        polygon(x, 20, 0, 30, 0, 20, 10);
-        line(x, 1, 1);
-        polygon(x, 0, 0, 4, 4, 4, 0, 0, 4);
+        x.lineOf(0, 0, 10, 10);
+        x.polygonOf(20, 0, 30, 0, 20, 10);
+        x.lineOf(1, 1);
+        x.polygonOf(0, 0, 4, 4, 4, 0, 0, 4);
         due.is("all", x.boxed(LEAST, LEAST, MOST, MOST), 3);
         due.is("one place", x.boxed(5, 5, 5, 5), 2);
         due.is("in the box of a line, off the line", x.boxed(1, 9, 2, 9), 1);
@@ -477,41 +452,41 @@ public final class PromisesTest {
     }
 
     private static void promise14Found() {
-        PlacePoints x = new PlacePoints();
-        due.foundThrows(x, 0);
+        Plane x = new Plane(due);
+        due.is("found(0)", x.found(0), Due.THROWS);
         x.point(1, 1);
         x.line();
         x.point(9, 9);
         x.point(2, 2);
-        due.foundThrows(x, 0);
+        due.is("found(0)", x.found(0), Due.THROWS);
         due.is("boxed", x.boxed(0, 0, 5, 5), 2);
-        due.found(x, 0, 0);
-        due.found(x, 1, 3);
-        due.foundThrows(x, 2);
-        due.foundThrows(x, -1);
-        due.foundThrows(x, LEAST);
-        due.foundThrows(x, MOST);
+        due.is("found(0)", x.found(0), 0);
+        due.is("found(1)", x.found(1), 3);
+        due.is("found(2)", x.found(2), Due.THROWS);
+        due.is("found(-1)", x.found(-1), Due.THROWS);
+        due.is("found(LEAST)", x.found(LEAST), Due.THROWS);
+        due.is("found(MOST)", x.found(MOST), Due.THROWS);
         x.remove(3);
         x.point(3, 3);
-        due.found(x, 1, 3);
-        due.foundThrows(x, 2);
+        due.is("found(1)", x.found(1), 3);
+        due.is("found(2)", x.found(2), Due.THROWS);
         due.is("boxed", x.boxed(8, 8, 9, 9), 1);
-        due.found(x, 0, 2);
-        due.foundThrows(x, 1);
+        due.is("found(0)", x.found(0), 2);
+        due.is("found(1)", x.found(1), Due.THROWS);
         due.is("boxed the wrong way round", x.boxed(9, 9, 8, 8), 0);
-        due.foundThrows(x, 0);
+        due.is("found(0)", x.found(0), Due.THROWS);
         for (int i = 5; i < 60; i++) {
             x.point(0, 0);
         }
         due.is("boxed", x.boxed(0, 0, 9, 9), 58);
-        due.found(x, 57, 59);
-        due.foundThrows(x, 58);
-        due.foundThrows(x, 59);
-        due.foundThrows(x, 60);
+        due.is("found(57)", x.found(57), 59);
+        due.is("found(58)", x.found(58), Due.THROWS);
+        due.is("found(59)", x.found(59), Due.THROWS);
+        due.is("found(60)", x.found(60), Due.THROWS);
     }
 
     private static void promise15Shapes() {
-        PlacePoints x = new PlacePoints();
+        Plane x = new Plane(due);
         x.point(0, 0);
         x.line();
         x.polygon();

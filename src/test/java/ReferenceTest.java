@@ -6,18 +6,20 @@ import java.util.TreeMap;
 /** Runs of 512 calls, the same ones every time, against the reference: in narrow, wide and wild places. */
 public final class ReferenceTest {
     private static final int[] WILD = {Integer.MIN_VALUE, Integer.MAX_VALUE, -10001, 10001, -10000, 10000, -1, 0, 1, 59, 60, 61};
-    private static final int RUNS = 180;
-    private static final int CALLS = 512;
+    private static final int RUNS = 320;
+    /** The most calls that one step of a run makes. */
+    private static final int MOST_CALLS_A_STEP = 30;
 
     private final Due due = new Due();
     private final Random random = new Random(20261115L);
     private final TreeMap<String, Integer> seen = new TreeMap<>();
-    private PlacePoints x;
+    private Plane x;
     private Reference y;
     private int run;
     private int reach;
     private int made;
     private final ArrayList<Integer> polygons = new ArrayList<>();
+    private final ArrayList<Integer> rights = new ArrayList<>();
 
     public static void main(String[] args) {
         new ReferenceTest().all();
@@ -29,17 +31,28 @@ public final class ReferenceTest {
             reach = reaches[run % reaches.length];
             made = 0;
             polygons.clear();
-            x = new PlacePoints();
+            rights.clear();
+            x = new Plane(due);
             y = new Reference();
-            int calls = 0;
-            while (calls < CALLS) {
-                // Every fourth run is mostly building, so that shapes and corners run out.
-                calls += random.nextInt(100) < (run % 4 == 0 ? 60 : 6) ? whole() : one();
+            while (x.callsLeft() >= MOST_CALLS_A_STEP) {
+                step();
+            }
+            while (x.callsLeft() > 0) {
+                inside();
             }
         }
         System.out.println(seen);
         requireSeen();
         due.end();
+    }
+
+    private void step() {
+        // Every fourth run is mostly building, so that shapes and corners run out.
+        if (random.nextInt(100) < (run % 4 == 0 ? 85 : 6)) {
+            whole();
+        } else {
+            one();
+        }
     }
 
     /** A test that never gets to an answer says nothing about it. */
@@ -74,8 +87,8 @@ public final class ReferenceTest {
         return random.nextInt(made + 1);
     }
 
-    private int polygonMostly() {
-        return polygons.isEmpty() || random.nextInt(10) == 0 ? shape() : polygons.get(random.nextInt(polygons.size()));
+    private int mostlyOf(ArrayList<Integer> numbers) {
+        return numbers.isEmpty() || random.nextInt(10) == 0 ? shape() : numbers.get(random.nextInt(numbers.size()));
     }
 
     private void made(String kind, int got, int want) {
@@ -88,13 +101,13 @@ public final class ReferenceTest {
     }
 
     /** A whole line or polygon at once: its corners round a middle, so that it is often right. */
-    private int whole() {
+    private void whole() {
         boolean isLine = random.nextInt(3) == 0;
         int number = isLine ? x.line() : x.polygon();
         made(isLine ? "line" : "polygon", number, y.make(isLine ? 'L' : 'G'));
         if (number < 0) {
             point();
-            return 2;
+            return;
         }
         boolean isLong = random.nextInt(4) == 0 || run % 8 == 0;
         int n = 2 + random.nextInt(isLong ? 24 : 5);
@@ -108,11 +121,13 @@ public final class ReferenceTest {
             double away = size * (0.3 + 0.7 * random.nextDouble());
             corner(number, (int) Math.round(midX + away * Math.cos(angle)), (int) Math.round(midY + away * Math.sin(angle)));
         }
-        check(number);
-        if (!isLine) {
+        int answer = check(number);
+        if (answer == 1) {
+            rights.add(number);
+        }
+        if (!isLine && (answer == 1 || random.nextInt(4) == 0)) {
             polygons.add(number);
         }
-        return n + 2;
     }
 
     private void point() {
@@ -129,13 +144,14 @@ public final class ReferenceTest {
         }
     }
 
-    private void check(int number) {
+    private int check(int number) {
         int got = x.check(number);
         same("check", got, y.check(number));
         saw("check " + (got == PlacePoints.BAD ? "BAD" : got));
+        return got;
     }
 
-    private int one() {
+    private void one() {
         switch (random.nextInt(15)) {
             case 0 -> {
                 if (random.nextBoolean()) {
@@ -171,21 +187,20 @@ public final class ReferenceTest {
             case 13 -> boxed();
             default -> same("shapes", x.shapes(), y.shapes());
         }
-        return 1;
     }
 
     private void inside() {
         int u = place();
         int v = place();
-        int number = polygonMostly();
+        int number = mostlyOf(polygons);
         int got = x.inside(u, v, number);
         same("inside", got, y.inside(u, v, number));
         saw("inside " + (got == PlacePoints.BAD ? "BAD" : got));
     }
 
     private void pair() {
-        int a = random.nextBoolean() ? polygonMostly() : shape();
-        int b = shape();
+        int a = mostlyOf(polygons);
+        int b = random.nextBoolean() ? mostlyOf(rights) : shape();
         int got = x.meets(a, b);
         same("meets", got, y.meets(a, b));
         saw("meets " + (got == PlacePoints.BAD ? "BAD" : got));
@@ -205,7 +220,7 @@ public final class ReferenceTest {
     }
 
     private void area() {
-        int number = polygonMostly();
+        int number = mostlyOf(polygons);
         long got = x.area(number);
         same("area", got, y.area(number));
         saw("area " + (got < 0 ? "below 0" : got > 0 ? "above 0" : "0"));
@@ -221,9 +236,9 @@ public final class ReferenceTest {
         int count = x.boxed(us[0], vs[0], us[1], vs[1]);
         same("boxed", count, y.boxed(us[0], vs[0], us[1], vs[1]));
         for (int i : new int[] {0, count / 2, count - 1, count, -1, 59, 60, WILD[random.nextInt(WILD.length)]}) {
-            long got = Due.foundOr(x, i, -77);
-            same("found", got, y.foundOr(i, -77));
-            saw(got == -77 ? "found throws" : "found a shape");
+            long got = x.found(i);
+            same("found", got, y.foundOr(i, Due.THROWS));
+            saw(got == Due.THROWS ? "found throws" : "found a shape");
         }
     }
 }
