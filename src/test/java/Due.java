@@ -6,13 +6,20 @@ final class Due {
     private int asked = 0;
     private int wrong = 0;
     private String sentence = "";
-    private int askedBefore = -1;
 
-    /** What is asked from here on tests this sentence of the document. */
-    void sentence(String words) {
-        endSentence();
+    /** Runs the test of one sentence of the document; what it throws is as wrong as an answer that is not due. */
+    void sentence(String words, Runnable test) {
         sentence = words;
-        askedBefore = asked;
+        int askedBefore = asked;
+        try {
+            test.run();
+        } catch (RuntimeException e) {
+            wrong++;
+            System.out.println("\"" + words + "\": threw " + e);
+            e.printStackTrace(System.out);
+        }
+        is("the number of its answers is 0:", asked == askedBefore ? 1 : 0, 0);
+        sentence = "";
     }
 
     void is(String call, long got, long want) {
@@ -24,17 +31,9 @@ final class Due {
     }
 
     void end() {
-        endSentence();
         System.out.println(asked + " answers, " + wrong + " not as due");
         if (wrong != 0 || asked == 0) {
             System.exit(1);
-        }
-    }
-
-    private void endSentence() {
-        if (asked == askedBefore) {
-            wrong++;
-            System.out.println("\"" + sentence + "\" is not tested");
         }
     }
 }

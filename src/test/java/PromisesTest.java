@@ -1,4 +1,4 @@
-/** One method for each promise of the document: ordinary inputs, the edges that it names, wrong inputs. */
+/** A method or more for each promise of the document: ordinary inputs and wrong ones; BoundariesTest has the edges, sentence by sentence. */
 public final class PromisesTest {
     private static final int BAD = PlacePoints.BAD;
     private static final int FULL = PlacePoints.FULL;
