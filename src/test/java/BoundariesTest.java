@@ -76,6 +76,15 @@ public final class BoundariesTest {
         return x;
     }
 
+    /** 60 points, so that 60 is the least number that none can have. */
+    private static Plane withAllShapes() {
+        Plane x = new Plane(due);
+        for (int i = 0; i < 60; i++) {
+            due.is("point", x.point(i, 0), i);
+        }
+        return x;
+    }
+
     private static void newHasNoShapes() {
         Plane used = oneOfEach();
         due.is("boxed of another object", used.boxed(0, 0, 9, 9), 3);
@@ -227,6 +236,7 @@ public final class BoundariesTest {
         }
         due.is("corner of a point", x.corner(0, 1, 1), BAD);
         due.is("shapes", x.shapes(), 7);
+        due.is("corner(60, 1, 1) of 60 shapes", withAllShapes().corner(60, 1, 1), BAD);
         Plane y = almostWithoutRoom();
         int last = y.line();
         for (int i = 0; i < 15; i++) {
@@ -307,6 +317,9 @@ public final class BoundariesTest {
         due.is("remove", x.remove(0), 1);
         due.is("remove again", x.remove(0), BAD);
         due.is("shapes", x.shapes(), 6);
+        Plane all = withAllShapes();
+        due.is("remove(60) of 60 shapes", all.remove(60), BAD);
+        due.is("remove(59) of 60 shapes", all.remove(59), 1);
         due.is("the next number", x.line(), 8);
     }
 
@@ -356,6 +369,9 @@ public final class BoundariesTest {
         for (int number : noNumbers(8, 7)) {
             due.is("check(" + number + ")", x.check(number), BAD);
         }
+        Plane all = withAllShapes();
+        due.is("check(60) of 60 shapes", all.check(60), BAD);
+        due.is("check(59) of 60 shapes", all.check(59), 1);
     }
 
     private static void insideOutsideOnASide() {
@@ -378,6 +394,27 @@ public final class BoundariesTest {
         due.is("on a far side's end", x.inside(10000, 10000, sliver), 2);
         due.is("below it", x.inside(-9999, -9999, sliver), 0);
         due.is("above it", x.inside(-9999, -9997, sliver), 0);
+        insideOfDiamond();
+    }
+
+    /** The places of |u| + |v| = 6 are its 24 corners, those of less lie in it. */
+    private static void insideOfDiamond() {
+        Plane x = new Plane(due);
+        int[] corners = new int[48];
+        for (int i = 0; i < 24; i++) {
+            int[] us = {6 - i % 6, -(i % 6), i % 6 - 6, i % 6};
+            corners[2 * i] = us[i / 6];
+            corners[2 * i + 1] = us[(i / 6 + 3) % 4];
+        }
+        int many = x.polygonOf(corners);
+        int four = x.polygonOf(6, 0, 0, 6, -6, 0, 0, -6);
+        for (int v = -7; v <= 7; v++) {
+            for (int u = -7; u <= 7; u++) {
+                int away = Math.abs(u) + Math.abs(v);
+                int want = away < 6 ? 1 : away == 6 ? 2 : 0;
+                due.is("inside(" + u + ", " + v + ")", x.inside(u, v, (u + v) % 2 == 0 ? many : four), want);
+            }
+        }
     }
 
     private static int[] backwards(int[] corners) {
@@ -404,6 +441,7 @@ public final class BoundariesTest {
         for (int number : noNumbers(8, 7)) {
             due.is("inside(2, 2, " + number + ")", x.inside(2, 2, number), BAD);
         }
+        due.is("inside(0, 0, 60) of 60 shapes", withAllShapes().inside(0, 0, 60), BAD);
         due.is("a point", x.inside(2, 2, 0), BAD);
         due.is("a line", x.inside(2, 2, 1), BAD);
         due.is("a right polygon", x.inside(2, 2, 2), 1);
@@ -449,6 +487,10 @@ public final class BoundariesTest {
         }
         due.is("a wrong one and itself", x.meets(4, 4), BAD);
         due.is("two that are none", x.meets(-1, 8), BAD);
+        Plane all = withAllShapes();
+        due.is("meets(0, 60) of 60 shapes", all.meets(0, 60), BAD);
+        due.is("meets(60, 0) of 60 shapes", all.meets(60, 0), BAD);
+        due.is("meets(0, 59) of 60 shapes", all.meets(0, 59), 0);
     }
 
     private static void squareParts() {
@@ -481,6 +523,10 @@ public final class BoundariesTest {
                 due.is("square of a wrong one and itself", x.square(wrong, wrong, part), BAD);
             }
         }
+        Plane all = withAllShapes();
+        due.is("square(0, 60, 0) of 60 shapes", all.square(0, 60, 0), BAD);
+        due.is("square(60, 0, 1) of 60 shapes", all.square(60, 0, 1), BAD);
+        due.is("square(0, 59, 0) of 60 shapes", all.square(0, 59, 0), 59 * 59);
     }
 
     private static void nearRightShapesAlone() {
@@ -636,6 +682,7 @@ public final class BoundariesTest {
         for (int number : noNumbers(10, 7)) {
             due.is("area(" + number + ")", x.area(number), 0);
         }
+        due.is("area(60) of 60 shapes", withAllShapes().area(60), 0);
     }
 
     private static void boxedInCommon() {

@@ -446,6 +446,8 @@ public final class TermsTest {
         x.squareIs(line, x.point(0, 3), 9, 1);
         x.squareIs(line, x.point(-4, 3), 25, 1);
         x.squareIs(line, x.point(14, 3), 25, 1);
+        x.squareIs(x.lineOf(0, 0, 10, -20), x.point(3, -30), 149, 1);
+        x.squareIs(x.lineOf(0, 0, -20, 10), x.point(-30, 3), 149, 1);
         x.squareIs(line, x.lineOf(5, 2, 5, 9), 4, 1);
         x.squareIs(line, x.lineOf(-5, 1, 15, 1), 1, 1);
         x.squareIs(line, x.lineOf(12, 0, 15, 0), 4, 1);
